@@ -53,7 +53,7 @@ public final class HookSwings {
     private static final int LAWS = 5;
 
     private final World now;
-    private final World image;
+    private final World held;
     private final Text[] texts;
     private final Text lawless;
     private final Laws laws;
@@ -68,7 +68,7 @@ public final class HookSwings {
 
     public HookSwings() {
         now = new World();
-        image = new World();
+        held = new World();
         texts = new Text[TEXTS_MOST];
         for (int i = 0; i < TEXTS_MOST; i++) {
             texts[i] = new Text();
@@ -190,12 +190,15 @@ public final class HookSwings {
         return now.hook.place;
     }
 
-    private void runTenths(int n) {
+    /** Runs n TENTHS, or as many of them as can be: how many. */
+    private int runTenths(int n) {
         Laws ruling = ruled();
-        for (int i = 0; i < n; i++) {
+        int can = Math.min(n, TENTH_MOST - now.hook.tenth);
+        for (int i = 0; i < can; i++) {
             now.keepStep();
             now.hook.tenthBy(ruling.command(now.hook), ruling);
         }
+        return can;
     }
 
     private boolean fitsAhead(int n) {
@@ -226,8 +229,8 @@ public final class HookSwings {
         }
         now.keepStep();
         now.hook.hooked = order;
-        now.hook.weight = now.ofOrder(order, WEIGHT);
-        now.hook.goal = now.ofOrder(order, YARD) * 10;
+        now.hook.weight = now.told(order, WEIGHT);
+        now.hook.goal = now.told(order, YARD) * 10;
         return true;
     }
 
@@ -262,7 +265,7 @@ public final class HookSwings {
             case Tokens.MOVE:
                 return move(one) != NONE;
             case Tokens.RUN:
-                return playRun(one);
+                return runTenths(one) == one;
             case Tokens.ROPE:
                 return hoist(one);
             case Tokens.AIM:
@@ -276,12 +279,6 @@ public final class HookSwings {
         }
     }
 
-    private boolean playRun(int n) {
-        int can = Math.min(n, TENTH_MOST - now.hook.tenth);
-        runTenths(can);
-        return can == n;
-    }
-
     public int storm(int seed, int n) {
         if (!within(seed, 0, 9999) || !within(n, 1, STORM_MOST) || !fitsAhead(n)) {
             return NONE;
@@ -291,9 +288,9 @@ public final class HookSwings {
         Laws ruling = ruled();
         hook.x = seed * 3 + 59;
         for (int i = 0; i < n; i++) {
-            hook.wind = hook.drawn(10);
+            hook.wind = hook.drawn();
             hook.tenthBy(hook.x % 3 - 1, ruling);
-            hook.drawn(10);
+            hook.renewX();
         }
         return hook.place;
     }
@@ -331,13 +328,13 @@ public final class HookSwings {
         switch (what) {
             case 5: return now.hook.hasLanded(order) ? 1 : 0;
             case 6: return lasting(order);
-            case 7: return ruled().holds(now.ofOrder(order, YARD));
-            default: return now.ofOrder(order, what);
+            case 7: return ruled().holds(now.told(order, YARD));
+            default: return now.told(order, what);
         }
     }
 
     private int lasting(int order) {
-        return ruled().lasts(now.hook.rope, now.ofOrder(order, WEIGHT), now.ofOrder(order, YARD));
+        return ruled().lasts(now.hook.rope, now.told(order, WEIGHT), now.told(order, YARD));
     }
 
     public int ago(int k, int what) {
@@ -501,7 +498,7 @@ public final class HookSwings {
         int all = 0;
         for (int o = 0; o < now.orderCount; o++) {
             if ((orders >> o & 1) == 1) {
-                trial.rest(now.hook.rope, now.ofOrder(o, WEIGHT), now.ofOrder(o, YARD) * 10);
+                trial.rest(now.hook.rope, now.told(o, WEIGHT), now.told(o, YARD) * 10);
                 int still = trial.stillIn(AHEAD_MOST, now.near, handed);
                 all += still == NONE ? AHEAD_MOST : still;
             }
@@ -569,7 +566,7 @@ public final class HookSwings {
         trial.startAs(now.hook);
         for (int k = 1; k <= n; k++) {
             trial.tenthAhead(run, ruling);
-            if (now.bars(trial.place, trial.tenth)) {
+            if (now.bans(trial.place, trial.tenth)) {
                 return k;
             }
         }
@@ -592,7 +589,7 @@ public final class HookSwings {
         Laws ruling = ruled();
         int bits = 0;
         for (int o = 0; o < now.orderCount; o++) {
-            if (now.ofOrder(o, WEIGHT) > ruling.holds(now.ofOrder(o, YARD))) {
+            if (now.told(o, WEIGHT) > ruling.holds(now.told(o, YARD))) {
                 bits |= 1 << o;
             }
         }
@@ -687,12 +684,12 @@ public final class HookSwings {
     // ---- the image
 
     public int image() {
-        image.copy(now);
+        held.copy(now);
         return now.hook.tenth;
     }
 
     public int back() {
-        now.copy(image);
+        now.copy(held);
         return now.hook.tenth;
     }
 
@@ -775,7 +772,7 @@ public final class HookSwings {
 
         private static final int[] SHIFTS = {0, 15, 23, 28, 32, 43};
         private static final int[] MASKS = {32767, 255, 31, 15, 2047, 3};
-        private static final int[] LEASTS = {-9999, -99, -9, 0, -PLACE_MOST, -1};
+        private static final int[] LEASTS = {-9999, -99, -9, 0, -600, -1};
 
         private final long[] rows;
         private final int size;
@@ -798,7 +795,7 @@ public final class HookSwings {
         }
 
         int part(int tenth, int what) {
-            if (tenth < 0 || !within(what, 0, KEPT_PARTS - 1)) {
+            if (tenth < 0 || what < 0 || what >= KEPT_PARTS) {
                 return 0;
             }
             return (int) (rows[tenth % size] >> SHIFTS[what] & MASKS[what]) + LEASTS[what];
@@ -882,14 +879,18 @@ public final class HookSwings {
             if (windStands) {
                 return;
             }
-            wind = (tenth + 1) % 40 == 0 ? drawn(10) : Math.max(0, wind - 1);
+            wind = (tenth + 1) % 40 == 0 ? drawn() : Math.max(0, wind - 1);
         }
 
-        /** A draw by a number above 0, and X anew. */
-        int drawn(int by) {
-            int draw = by > 0 ? x % by : 0;
-            x = (x * 263 + 157) % 30253;
+        /** A draw by 10. */
+        int drawn() {
+            int draw = x % 10;
+            renewX();
             return draw;
+        }
+
+        void renewX() {
+            x = (x * 263 + 157) % 30253;
         }
 
         /** A TENTH by the hand (run) or with COMMAND 0. */
@@ -900,7 +901,7 @@ public final class HookSwings {
         /** Runs by the hand: in how many TENTHS it first hangs still, 1 .. most. */
         int stillIn(int most, int near, Laws laws) {
             for (int k = 1; k <= most; k++) {
-                tenthAhead(true, laws);
+                tenthBy(laws.command(this), laws);
                 if (hangsStill(near)) {
                     return k;
                 }
@@ -912,7 +913,7 @@ public final class HookSwings {
         int farthest(int n, Laws laws) {
             int far = 0;
             for (int k = 0; k < n; k++) {
-                tenthAhead(true, laws);
+                tenthBy(laws.command(this), laws);
                 far = Math.max(far, swung());
             }
             return far;
@@ -1020,7 +1021,7 @@ public final class HookSwings {
         final int[] writtenOrders = new int[WRITTEN_MOST];
         final int[] writtenTenths = new int[WRITTEN_MOST];
 
-        int ofOrder(int order, int what) {
+        int told(int order, int what) {
             boolean there = within(order, 0, ORDERS_MOST - 1) && within(what, 0, ORDER_PARTS - 1);
             return there ? orders[order * ORDER_PARTS + what] : 0;
         }
@@ -1053,7 +1054,7 @@ public final class HookSwings {
             hook.weight = 0;
         }
 
-        boolean bars(int place, int tenth) {
+        boolean bans(int place, int tenth) {
             for (int i = 0; i < barCount; i++) {
                 int at = i * BAR_PARTS;
                 if (within(place, bars[at], bars[at + 1]) && within(tenth, bars[at + 2], bars[at + 3])) {
@@ -1088,9 +1089,8 @@ public final class HookSwings {
 
     /** The TOKENS of a tape. Words are numbered as they stand in WORDS. */
     private static final class Tokens {
-        private static final String WORDS = "paces swings hand holds lasts order move run aim hook land "
-                + "away speed pace wind goal rope weight yard at due men in on out "
-                + "if then else end or and not size ago ";
+        private static final String WORDS =
+                "paces swings hand holds lasts order move run aim hook land away speed pace wind goal rope weight yard at due men in on out if then else end or and not size ago ";
         static final int ORDER = 5;
         static final int MOVE = 6;
         static final int RUN = 7;
@@ -1139,16 +1139,16 @@ public final class HookSwings {
         private int count;
         private int length;
 
-        int kind(int i) {
-            return within(i, 0, count - 1) ? kinds[i] : NO_MORE;
+        int kindAt(int i) {
+            return i >= 0 && i < count ? kinds[i] : NO_MORE;
         }
 
-        int place(int i) {
-            return within(i, 0, count - 1) ? places[i] : length;
+        int placeAt(int i) {
+            return i >= 0 && i < count ? places[i] : length;
         }
 
-        int value(int i) {
-            return within(i, 0, count - 1) ? values[i] : 0;
+        int valueAt(int i) {
+            return i >= 0 && i < count ? values[i] : 0;
         }
 
         void scan(int[] tape, int tapeLength) {
@@ -1251,7 +1251,7 @@ public final class HookSwings {
     private static final class Text {
         private static final int ARGS = 5;
 
-        private final int[] deeds = new int[TAPE_MOST];
+        final int[] deeds = new int[TAPE_MOST];
         private final int[] begins = new int[LAWS];
         private final int[] ends = new int[LAWS];
         private final int[] kinds = new int[CLAUSES_MOST];
@@ -1282,10 +1282,6 @@ public final class HookSwings {
 
         int stop(int law) {
             return within(law, 0, LAWS - 1) ? ends[law] : NONE;
-        }
-
-        int deed(int i) {
-            return within(i, 0, length - 1) ? deeds[i] : 0;
         }
 
         int kind(int clause) {
@@ -1336,11 +1332,15 @@ public final class HookSwings {
     private static final class Reader {
         // By law, the NAMES that can be asked in it (bits, from away on).
         private static final int[] NAMES = {127, 127, 127, 128, 224};
+        private static final int ALL_NAMES = 255;
         private static final int AGO_NAMES = 31;
+        private static final int FAILED = 63;
 
         private final Tokens tokens = new Tokens();
         private Text text;
         private int next;
+        /** Of the TOKEN that is come to; FAILED behind a FAULT, so that nothing more is taken. */
+        private int kind;
         private int open;
         private int law;
         int fault;
@@ -1354,12 +1354,13 @@ public final class HookSwings {
         boolean read(int[] tape, int length, Text into) {
             text = into;
             text.clear();
-            next = 0;
+            tokens.scan(tape, length);
             open = 0;
             fault = 0;
             place = NONE;
-            tokens.scan(tape, length);
-            for (int i = 0; i <= CLAUSES_MOST && fault == 0 && tokens.kind(next) != Tokens.NO_MORE; i++) {
+            next = 0;
+            kind = tokens.kindAt(0);
+            for (int i = 0; i <= CLAUSES_MOST && kind != Tokens.NO_MORE && kind != FAILED; i++) {
                 clause();
             }
             return fault == 0;
@@ -1368,38 +1369,40 @@ public final class HookSwings {
         private void fail(int what) {
             if (fault == 0) {
                 fault = what;
-                place = tokens.place(next);
+                place = tokens.placeAt(next);
+                kind = FAILED;
             }
         }
 
-        private boolean is(int kind) {
-            return fault == 0 && tokens.kind(next) == kind;
+        private void step() {
+            next++;
+            kind = tokens.kindAt(next);
         }
 
-        private void take(int kind) {
-            if (is(kind)) {
-                next++;
+        private void take(int due) {
+            if (kind == due) {
+                step();
             } else {
                 fail(1);
             }
         }
 
         private int number(int least, int most) {
-            if (!is(Tokens.NUMBER)) {
+            int value = tokens.valueAt(next);
+            if (kind != Tokens.NUMBER) {
                 fail(1);
                 return least;
             }
-            int value = tokens.value(next);
-            if (!within(value, least, most)) {
+            if (value < least || value > most) {
                 fail(2);
                 return least;
             }
-            next++;
+            step();
             return value;
         }
 
         private void clause() {
-            int word = tokens.kind(next);
+            int word = kind;
             if (word > Tokens.LAND && word != Tokens.ROPE) {
                 fail(1);
             } else if (text.has(word)) {
@@ -1407,14 +1410,21 @@ public final class HookSwings {
             } else if (text.clauses >= CLAUSES_MOST) {
                 fail(6);
             } else {
-                next++;
-                inClause(word);
+                step();
+                if (word < LAWS) {
+                    law = word;
+                    int from = text.length;
+                    sum();
+                    text.setLaw(word, from);
+                } else {
+                    deedParts(word);
+                }
                 take(Tokens.SEMICOLON);
                 text.closeClause(word);
             }
         }
 
-        private void inClause(int word) {
+        private void deedParts(int word) {
             switch (word) {
                 case Tokens.ORDER: orderParts(); break;
                 case Tokens.MOVE: side(); break;
@@ -1422,12 +1432,7 @@ public final class HookSwings {
                 case Tokens.ROPE: text.setArg(0, number(1, ROPE_MOST)); break;
                 case Tokens.AIM: text.setArg(0, number(0, PLACE_MOST)); break;
                 case Tokens.HOOK: text.setArg(0, number(0, ORDERS_MOST - 1)); break;
-                case Tokens.LAND: break;
-                default:
-                    law = word;
-                    int from = text.length;
-                    sum();
-                    text.setLaw(word, from);
+                default: break;
             }
         }
 
@@ -1444,20 +1449,19 @@ public final class HookSwings {
         }
 
         private void side() {
-            int word = tokens.kind(next);
-            if (within(word, Tokens.IN, Tokens.OUT)) {
-                text.setArg(0, word - Tokens.ON);
-                next++;
-            } else {
+            if (kind < Tokens.IN || kind > Tokens.OUT) {
                 fail(1);
+                return;
             }
+            text.setArg(0, kind - Tokens.ON);
+            step();
         }
 
         private void sum() {
             product();
-            for (int i = 0; i < TAPE_MOST && (is(Tokens.PLUS) || is(Tokens.MINUS)); i++) {
-                int deed = is(Tokens.PLUS) ? Laws.ADD : Laws.TAKE;
-                next++;
+            for (int i = 0; i < TAPE_MOST && (kind == Tokens.PLUS || kind == Tokens.MINUS); i++) {
+                int deed = kind == Tokens.PLUS ? Laws.ADD : Laws.TAKE;
+                step();
                 product();
                 text.addDeed(deed, 0);
             }
@@ -1465,19 +1469,16 @@ public final class HookSwings {
 
         private void product() {
             one();
-            for (int i = 0; i < TAPE_MOST && (is(Tokens.TIMES) || is(Tokens.BY)); i++) {
-                int deed = is(Tokens.TIMES) ? Laws.TIMES : Laws.CUT;
-                next++;
+            for (int i = 0; i < TAPE_MOST && (kind == Tokens.TIMES || kind == Tokens.BY); i++) {
+                int deed = kind == Tokens.TIMES ? Laws.TIMES : Laws.CUT;
+                step();
                 one();
                 text.addDeed(deed, 0);
             }
         }
 
         private void one() {
-            if (fault != 0) {
-                return;
-            }
-            switch (tokens.kind(next)) {
+            switch (kind) {
                 case Tokens.NUMBER:
                     text.addDeed(Laws.NUMBER, number(0, 9999));
                     break;
@@ -1492,22 +1493,22 @@ public final class HookSwings {
                 case Tokens.SIZE: changedOne(Laws.SIZE); break;
                 case Tokens.IF: choice(); break;
                 case Tokens.AGO:
-                    next++;
+                    step();
                     int tenths = number(1, AGO_MOST);
                     name(Laws.AGO, tenths * 8, AGO_NAMES);
                     break;
-                default: name(Laws.NAME, 0, 255);
+                default: name(Laws.NAME, 0, ALL_NAMES);
             }
         }
 
-        /** Goes behind a TOKEN that opens something, unless it is open too deep. */
+        /** Goes behind a TOKEN that opens something, unless it would be open too deep. */
         private boolean opens() {
             if (open >= OPEN_MOST) {
                 fail(3);
                 return false;
             }
             open++;
-            next++;
+            step();
             return true;
         }
 
@@ -1520,20 +1521,14 @@ public final class HookSwings {
         }
 
         private void name(int deed, int more, int askable) {
-            int word = tokens.kind(next);
-            if (!within(word, Tokens.AWAY, Tokens.YARD_NAME)) {
+            int number = kind - Tokens.AWAY;
+            if (number < 0 || kind > Tokens.YARD_NAME) {
                 fail(1);
-                return;
-            }
-            int number = word - Tokens.AWAY;
-            int names = within(law, 0, LAWS - 1) ? NAMES[law] : 0;
-            if ((names & askable & 1 << number) == 0) {
+            } else if (law < 0 || law >= LAWS || (NAMES[law] & askable & 1 << number) == 0) {
                 fail(5);
-                return;
-            }
-            if (fault == 0) {
+            } else {
                 text.addDeed(deed, more + number);
-                next++;
+                step();
             }
         }
 
@@ -1558,8 +1553,8 @@ public final class HookSwings {
 
         private void either() {
             both();
-            for (int i = 0; i < TAPE_MOST && is(Tokens.OR); i++) {
-                next++;
+            for (int i = 0; i < TAPE_MOST && kind == Tokens.OR; i++) {
+                step();
                 both();
                 text.addDeed(Laws.OR, 0);
             }
@@ -1567,15 +1562,15 @@ public final class HookSwings {
 
         private void both() {
             ask();
-            for (int i = 0; i < TAPE_MOST && is(Tokens.AND); i++) {
-                next++;
+            for (int i = 0; i < TAPE_MOST && kind == Tokens.AND; i++) {
+                step();
                 ask();
                 text.addDeed(Laws.AND, 0);
             }
         }
 
         private void ask() {
-            if (is(Tokens.NOT)) {
+            if (kind == Tokens.NOT) {
                 if (opens()) {
                     ask();
                     text.addDeed(Laws.NOT, 0);
@@ -1584,14 +1579,14 @@ public final class HookSwings {
                 return;
             }
             sum();
-            int sign = tokens.kind(next);
-            if (fault == 0 && within(sign, Tokens.LESS, Tokens.UNLIKE)) {
-                next++;
-                sum();
-                text.addDeed(Laws.LESS + sign - Tokens.LESS, 0);
-            } else {
+            int sign = kind;
+            if (sign < Tokens.LESS || sign > Tokens.UNLIKE) {
                 fail(1);
+                return;
             }
+            step();
+            sum();
+            text.addDeed(Laws.LESS + sign - Tokens.LESS, 0);
         }
     }
 
@@ -1632,7 +1627,6 @@ public final class HookSwings {
         Text hands;
         private final int[] names = new int[8];
         private final int[] stack = new int[STACK_MOST];
-        private int top;
         private Kept kept;
         private int tenth;
         private int eldest;
@@ -1713,45 +1707,41 @@ public final class HookSwings {
             names[WEIGHT_NAME] = hook.weight;
             kept = hook.kept;
             tenth = then;
-            eldest = hook.tenth - hook.keptCount();
+            eldest = hook.tenth > KEPT_MOST ? hook.tenth - KEPT_MOST : 0;
         }
 
         private int reckon(Text text, int law) {
+            int[] deeds = text.deeds;
             int at = text.begin(law);
-            int stop = text.stop(law);
-            top = 0;
+            int stop = Math.min(text.stop(law), deeds.length);
+            int top = 0;
             // Leaps lead ahead only, so no deed is done twice.
             for (int i = 0; i < TAPE_MOST && at >= 0 && at < stop; i++) {
-                int deed = text.deed(at) & DEED_MASK;
-                int arg = text.deed(at) >> DEED_BITS;
+                int deed = deeds[at] & DEED_MASK;
+                int arg = deeds[at] >> DEED_BITS;
                 at++;
-                if (deed == LEAP || deed == LEAP_UNLESS && pop() == 0) {
-                    at = arg;
-                } else if (deed >= ADD) {
-                    int right = pop();
-                    push(joined(deed, pop(), right));
+                if (deed >= ADD) {
+                    if (top >= 2) {
+                        top--;
+                        stack[top - 1] = joined(deed, stack[top - 1], stack[top]);
+                    }
                 } else if (deed >= NEGATE) {
-                    push(changed(deed, pop()));
-                } else if (deed != LEAP_UNLESS) {
-                    push(fetched(deed, arg));
+                    if (top >= 1) {
+                        stack[top - 1] = changed(deed, stack[top - 1]);
+                    }
+                } else if (deed == LEAP) {
+                    at = arg;
+                } else if (deed == LEAP_UNLESS) {
+                    if (top >= 1) {
+                        top--;
+                        at = stack[top] == 0 ? arg : at;
+                    }
+                } else if (top < STACK_MOST) {
+                    stack[top] = fetched(deed, arg);
+                    top++;
                 }
             }
-            return pop();
-        }
-
-        private void push(int value) {
-            if (top < STACK_MOST) {
-                stack[top] = value;
-                top++;
-            }
-        }
-
-        private int pop() {
-            if (top <= 0) {
-                return 0;
-            }
-            top--;
-            return stack[top];
+            return top >= 1 ? stack[top - 1] : 0;
         }
 
         private int fetched(int deed, int arg) {
@@ -1792,7 +1782,10 @@ public final class HookSwings {
         }
 
         private static int cut(long value) {
-            return (int) Math.max(-GREATEST, Math.min(GREATEST, value));
+            if (value > GREATEST) {
+                return GREATEST;
+            }
+            return value < -GREATEST ? -GREATEST : (int) value;
         }
     }
 
@@ -1873,7 +1866,8 @@ public final class HookSwings {
         private final int[] begins = new int[ORDERS_MOST];
 
         void weigh(World world, int set) {
-            for (int done = set; done >= 0; done--) {
+            // Those with more done come first: a set is greater than each of its parts.
+            for (int done = Math.min(set, rest.length - 1); done >= 0; done--) {
                 if ((done & ~set) == 0) {
                     rest[done] = done == set ? 0 : cheapest(world, set, done);
                 }
@@ -1899,10 +1893,10 @@ public final class HookSwings {
                 }
             }
             int behind = rest[done | 1 << order];
-            if (behind == LATE || end > world.ofOrder(order, DUE)) {
+            if (behind == LATE || end > world.told(order, DUE)) {
                 return LATE;
             }
-            return world.ofOrder(order, MEN) * end + behind;
+            return world.told(order, MEN) * end + behind;
         }
 
         int leastCost() {
@@ -1948,7 +1942,7 @@ public final class HookSwings {
             }
             int jibs = 0;
             for (int o = 0; o < ORDERS_MOST; o++) {
-                int jib = 1 << world.ofOrder(o, JIB);
+                int jib = 1 << world.told(o, JIB);
                 if ((set & ~done & 1 << o) != 0 && (jibs & jib) == 0) {
                     jibs |= jib;
                     begins[o] = earliest(world, done, o);
@@ -1969,8 +1963,8 @@ public final class HookSwings {
 
         /** Whether one ORDER can't be done at once with the other one. */
         private static boolean bindsTo(World world, int one, int other) {
-            return world.ofOrder(one, JIB) == world.ofOrder(other, JIB)
-                    || Math.abs(world.ofOrder(one, YARD) - world.ofOrder(other, YARD)) < 10;
+            return world.told(one, JIB) == world.told(other, JIB)
+                    || Math.abs(world.told(one, YARD) - world.told(other, YARD)) < 10;
         }
     }
 }
