@@ -1656,16 +1656,16 @@ public final class HookSwings {
         /** The COMMAND of the hand as all is. */
         int command(Hook hook) {
             if (!hands.has(HAND)) {
-                return Integer.signum(hook.goal - hook.place);
+                return Integer.compare(hook.goal, hook.place);
             }
             look(hook);
-            return Integer.signum(reckon(hands, HAND));
+            return Integer.compare(reckon(hands, HAND), 0);
         }
 
         /** The COMMAND that the hand would have given in a TENTH that is kept. */
         int commandThen(Hook hook, int then) {
             lookBack(hook, then);
-            return Integer.signum(hands.has(HAND) ? reckon(hands, HAND) : names[GOAL_NAME]);
+            return Integer.compare(hands.has(HAND) ? reckon(hands, HAND) : names[GOAL_NAME], 0);
         }
 
         int holds(int yard) {
@@ -1856,7 +1856,7 @@ public final class HookSwings {
 
     /** WHAT FIRST and TWO JIBS, over ORDERS whose lasting is filled in ahead. */
     private static final class Plan {
-        private static final int LATE = Integer.MAX_VALUE;
+        private static final int LATE = 1000000000;
 
         final int[] lasting = new int[ORDERS_MOST];
         final int[] bestBegins = new int[ORDERS_MOST];
@@ -1928,16 +1928,19 @@ public final class HookSwings {
 
         void placeAll(World world, int set) {
             bestEnd = LATE;
-            place(world, set, 0, 0);
+            place(world, set, 0, 0, 0);
         }
 
-        /** Tries each ORDER that can be next behind those that are done; there are 8 at most. */
-        private void place(World world, int set, int done, int end) {
+        /** Tries each ORDER that can be next behind those that are done: that many deep, 8 at most. */
+        private void place(World world, int set, int done, int end, int depth) {
             if (done == set) {
                 if (end < bestEnd) {
                     bestEnd = end;
                     System.arraycopy(begins, 0, bestBegins, 0, ORDERS_MOST);
                 }
+                return;
+            }
+            if (depth >= ORDERS_MOST) {
                 return;
             }
             int jibs = 0;
@@ -1946,7 +1949,7 @@ public final class HookSwings {
                 if ((set & ~done & 1 << o) != 0 && (jibs & jib) == 0) {
                     jibs |= jib;
                     begins[o] = earliest(world, done, o);
-                    place(world, set, done | 1 << o, Math.max(end, begins[o] + lasting[o]));
+                    place(world, set, done | 1 << o, Math.max(end, begins[o] + lasting[o]), depth + 1);
                 }
             }
         }

@@ -5,6 +5,7 @@ public final class AheadTest {
         foretoldIsWhatComes();
         soonest();
         fewest();
+        quickest();
         toAndFro();
         calm();
         dies();
@@ -123,6 +124,31 @@ public final class AheadTest {
         x.move(1);
         x.aim(6);
         commands("on its way", x, true, 1, 0, 0, 0, 0, 0, -1);
+    }
+
+    /** As quick as can be against the end of the jib, with the LOAD there already. */
+    private static void quickest() {
+        HookSwings x = new HookSwings();
+        Checks.text(x, "paces 9;" + TIGHT);
+        Checks.text(x, "paces 9;swings 0-speed;");
+        x.near(0);
+        x.by(0);
+        x.aim(600);
+        x.run(60);
+        x.run(60);
+        x.by(1);
+        Checks.is("the load is at the end", x.jib(2), 600);
+        x.move(-1);
+        for (int i = 0; i < 106; i++) {
+            x.move(0);
+        }
+        x.move(1);
+        for (int i = 0; i < 9; i++) {
+            x.move(1);
+        }
+        Checks.is("62 from the end", x.jib(0), 538);
+        commands("soonest", x, false, 7, 0, 0, 0, 0, 0, 0, 0);
+        commands("fewest", x, true, 0, 0, 0, 0, 0, 0, 0, 0);
     }
 
     private static void toAndFro() {
@@ -258,6 +284,21 @@ public final class AheadTest {
         Checks.is("bound -1", x.dayEnds(1, -1), -1);
         Checks.is("n 0", x.dayEnds(0, 0), -1);
         Checks.is("n 201", x.dayEnds(201, 0), -1);
+        HookSwings y = new HookSwings();
+        Checks.text(y, "paces 9;swings 0-99;hand 1;");
+        y.by(0);
+        y.run(60);
+        y.run(60);
+        Checks.is("the load is 10599 behind", y.jib(4), 10599);
+        Checks.is("bound 9999 is told", y.dayEnds(1, 9999), 1);
+        Checks.is("bound 10000 isn't", y.dayEnds(1, 10000), -1);
+        x.image();
+        x.storm(0, 39);
+        Checks.is("no gust while it stands", x.dayEnds(1, 9998), -1);
+        x.back();
+        x.run(38);
+        Checks.is("it stands through a gust", x.dayEnds(9, 9 * 45 - 1), 9);
+        Checks.is("and is no greater", x.dayEnds(9, 9 * 45), -1);
     }
 
     private static void saves() {
@@ -283,6 +324,23 @@ public final class AheadTest {
         Checks.is("-1", x.saves(1, 2, -1), -100000);
         Checks.is("text -1", x.saves(-1, 2, 1), -100000);
         Checks.is("text 4", x.saves(1, 4, 1), -100000);
+        HookSwings y = new HookSwings();
+        Checks.text(y, "hand if ago 1 wind>0 or wind>0 or ago 1 speed#0 or ago 2 pace#0 or rope#9 then 1 else 0 end;");
+        Checks.text(y, "hand 1;");
+        y.order(5, 0, 9, 9, 0);
+        y.storm(3, 40);
+        y.hoist(9);
+        Checks.is("it swings in the wind", y.jib(7) > 0 && y.jib(3) != 0, true);
+        y.foretold(9, true, 0);
+        Checks.is("from rest, nothing kept, no wind, the rope as now", y.saves(0, 1, 1), 199);
+        HookSwings z = new HookSwings();
+        Checks.text(z, "hand if goal<31 and wind=0 then 0-pace else 1-pace end;paces 9;");
+        Checks.text(z, "hand 1;");
+        Checks.text(z, TIGHT);
+        z.order(5, 10, 9, 9, 0);
+        z.by(2);
+        z.near(30);
+        Checks.is("no gust in 71 tenths", z.saves(0, 1, 1), 200 - 71);
     }
 
     private static void whenToGo() {
@@ -307,6 +365,13 @@ public final class AheadTest {
         Checks.is("200 in all", y.whenToGo(), 0);
         y.aim(200);
         Checks.is("201 are too many", y.whenToGo(), -1);
+        HookSwings z = tight(61);
+        Checks.text(z, TIGHT + "hand if goal=0 then 0-pace else 1 end;");
+        z.by(1);
+        z.move(1);
+        Checks.is("60 are not too long", z.whenToGo(), 60);
+        z.aim(62);
+        Checks.is("61 are too long", z.whenToGo(), -1);
     }
 
     private static void whichRope() {
@@ -325,6 +390,17 @@ public final class AheadTest {
         x.by(3);
         Checks.is("none", x.whichRope(), -1);
         Checks.is("rope stays", x.jib(5), 5);
+        HookSwings y = new HookSwings();
+        Checks.text(y, "paces 1;hand if goal=0 then 0-pace else 1-pace end;" + TIGHT);
+        Checks.text(y, "hand if rope=24 then 0 else 1 end;");
+        y.by(1);
+        Checks.is("24", y.whichRope(), 24);
+        y.by(0);
+        y.near(0);
+        y.aim(199);
+        Checks.is("in 200", y.whichRope(), 1);
+        y.aim(200);
+        Checks.is("201 are too many", y.whichRope(), -1);
     }
 
     private static void bars() {

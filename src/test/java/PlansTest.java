@@ -239,6 +239,21 @@ public final class PlansTest {
         Checks.is("place again", x.jib(0), 12);
         Checks.is("steps can be taken back", x.undo(), 5);
         Checks.is("place before", x.jib(0), 9);
+        HookSwings y = three();
+        y.image();
+        for (int i = 0; i < 9; i++) {
+            y.undo();
+        }
+        y.hook(3);
+        y.land();
+        y.hook(1);
+        y.land();
+        Checks.is("another one is written down", y.landed(1, 0), 3);
+        Checks.is("in another tenth", y.landed(1, 1), 2);
+        y.back();
+        Checks.is("what was written down: order", y.landed(1, 0), 0);
+        Checks.is("what was written down: tenth", y.landed(1, 1), 3);
+        Checks.is("what was written down: the last", y.landed(2, 1), 7);
     }
 
     private static void imageHoldsAll() {

@@ -127,6 +127,20 @@ public final class StepsTest {
         Checks.is("without a law: 99 at most", y.jib(3), 0);
         y.move(0);
         Checks.is("without a law: 99 at most again", y.jib(3), 99);
+        HookSwings u = new HookSwings();
+        Checks.text(u, "swings 5000;");
+        Checks.text(u, "swings 0-5000;");
+        u.by(1);
+        u.run(1);
+        u.by(0);
+        u.run(1);
+        Checks.is("swings 99 at most, from -99", u.jib(3), 0);
+        u.run(60);
+        u.run(60);
+        u.by(-1);
+        u.hoist(1);
+        u.run(1);
+        Checks.is("without a law: -99 at least", u.jib(3), 0);
         HookSwings z = new HookSwings();
         Checks.text(z, "paces if goal=5 and pace=0 and away=0 and wind=0 and speed=0 and rope=5 and weight=0 then 1 else 0 end;"
             + "swings if goal=4 and pace=1 and away=1 then 7 else 0 end;");
@@ -252,7 +266,10 @@ public final class StepsTest {
         Checks.text(x, "");
         Checks.is("all is done", x.played(0), -1);
         Checks.is("by its own law it isn't", x.jib(0), 4);
-        Checks.is("order", x.ofOrder(0, 4), 1);
+        int[] order = {9, 0, 8, 7, 1, 1};
+        for (int what = 0; what < order.length; what++) {
+            Checks.is("order " + what, x.ofOrder(0, what), order[what]);
+        }
         Checks.is("landed", x.landed(0, 1), 3);
         Checks.is("steps", x.about(5), 9);
         Checks.is("rope 9 is so", x.played(1), 0);
@@ -403,6 +420,13 @@ public final class StepsTest {
         Checks.is("holds 99 at most", x.ofOrder(0, 7), 99);
     }
 
+    private static void kept(String what, HookSwings x, int away, int speed, int pace, int goal) {
+        Checks.is(what + ": away", x.ago(1, 0), away);
+        Checks.is(what + ": speed", x.ago(1, 1), speed);
+        Checks.is(what + ": pace", x.ago(1, 2), pace);
+        Checks.is(what + ": goal", x.ago(1, 4), goal);
+    }
+
     private static void ago() {
         HookSwings x = new HookSwings();
         Checks.is("nothing kept", x.ago(1, 0), -100000);
@@ -438,5 +462,25 @@ public final class StepsTest {
         Checks.is("kept away", y.ago(1, 0), 9999);
         Checks.is("kept speed", y.ago(1, 1), -99);
         Checks.is("kept goal", y.ago(1, 4), 600);
+        HookSwings z = new HookSwings();
+        Checks.text(z, "paces 9;swings 99;");
+        Checks.text(z, "paces 9;swings 0-99;");
+        z.by(0);
+        z.run(60);
+        z.run(60);
+        Checks.is("load 9999", z.jib(2), 9999);
+        z.move(0);
+        kept("at 0", z, -9999, 99, 0, 0);
+        z.aim(600);
+        z.by(1);
+        for (int i = 0; i < 5; i++) {
+            z.run(60);
+        }
+        z.aim(0);
+        z.move(0);
+        kept("at 600", z, 10599, -99, 0, -600);
+        z.aim(500);
+        z.run(11);
+        kept("quick in", z, z.ago(1, 0), -99, -9, -46);
     }
 }

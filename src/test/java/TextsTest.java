@@ -66,6 +66,18 @@ public final class TextsTest {
         Checks.is("fault then", y.fault(0), 0);
         Checks.is("place then", y.fault(1), -1);
         Checks.is("played is what was sound", y.played(0), 0);
+        Checks.tape(y, "run 61;");
+        y.end(5);
+        y.text();
+        Checks.is("what stood behind the end isn't read", y.fault(0), 1);
+        Checks.is("place at the end", y.fault(1), 5);
+        for (int i = 0; i < 60; i++) {
+            Checks.text(y, "holds 1;paces if 1<2 then ((((1+2+3+4+5)*2");
+        }
+        Checks.is("faults leave nothing behind", Checks.text(y, "hand ((((((((0-7))))))));holds 50;"), 1);
+        y.by(1);
+        Checks.is("the law of the sound text", y.jib(12), -1);
+        Checks.is("another law of it", y.howFar(50), 60);
     }
 
     private static void by() {
@@ -88,7 +100,8 @@ public final class TextsTest {
             "hand((((((((1))))))));", "hand - - - - - - - - 1;", "hand 1- -1;", "hand ago 9 away+ago 1 speed;",
             "hand ago1away;", "hand 0000009999;", "run 0060;",
             "hand if not not 1<2 and 1<=2 or 1>2 and 1>=2 or 1=2 or 1#2 then 1 else 0-1 end;",
-            "hand if(1)<(2)then(1)else(2)end;", "lasts rope+weight+yard;holds yard;paces rope+weight;swings wind+goal;",
+            "hand if(1)<(2)then(1)else(2)end;", "hand if not 1<1 and not 1<1 and not 1<1 and not 1<1 and not 1<1 "
+                + "or not 1<1 or not 1<1 or not 1<1 or not 1<1 then -1 else -1 end;", "lasts rope+weight+yard;holds yard;paces rope+weight;swings wind+goal;",
             "hand (((((((1)))))))+(((((((1)))))));", "hand size size size size size size size size 1;",
             "hand if not if not if not if not 1<2 then 1 else 1 end<2 then 1 else 1 end<2 then 1 else 1 end<2 then 1 else 1 end;"};
         for (String text : sound) {
@@ -130,7 +143,20 @@ public final class TextsTest {
         Checks.fault("hand ();", 1, 6);
         Checks.fault("hand foo;", 1, 5);
         Checks.fault("hand not 1<2;", 1, 5);
-        Checks.fault("hand then;", 1, 5);
+        for (String word : "paces order move run aim hook land at due men in on out if then else end or and not".split(" ")) {
+            boolean opens = word.equals("if");
+            Checks.fault("hand " + word + ";", 1, opens ? 7 : 5);
+            Checks.fault("hand ago 1 " + word + ";", 1, 11);
+            Checks.fault("hand 1 " + word + ";", 1, 7);
+        }
+        for (String word : "paces rope land away yard at due men if then end ago".split(" ")) {
+            Checks.fault("move " + word + ";", 1, 5);
+            Checks.fault("run " + word + ";", 1, 4);
+        }
+        for (String sign : "< <= > >= = # * / ) ; +".split(" ")) {
+            Checks.fault("hand " + sign, 1, 5);
+            Checks.fault("land;" + sign, 1, 5);
+        }
         Checks.fault("hand ago 1 foo;", 1, 11);
         Checks.fault("hand ago away;", 1, 9);
         Checks.fault("hand ago 1 (away);", 1, 11);
