@@ -312,6 +312,11 @@ public final class TextsTest {
         ask("if 1<2 then 0 else 5 end=0", true);
         sum("if 1<2 then 3 else 4 end*2+1", 7);
         sum("1+if 2<1 then 3 else if 1<2 then 5 else 6 end end", 6);
+        String deep = "1";
+        for (int i = 0; i < 8; i++) {
+            deep = "if1=2or1=1and1<1+1*" + deep + "then1else2end ";
+        }
+        sum("1+1*" + deep, 2);
         sum("if yard<8 then if yard>7 then 1 else 2 end else 3 end", 2);
         sum("if yard>8 then if yard>7 then 1 else 2 end else 3 end", 3);
     }
