@@ -16,6 +16,7 @@ public final class AheadEdgesTest {
         soonestStillNow();
         soonestOfLikeOnes();
         fewestInSeven();
+        fewestAllSeven();
         fewestOfLikeOnes();
         toAndFroRange();
         toAndFroIn200();
@@ -27,10 +28,12 @@ public final class AheadEdgesTest {
         handWithoutLaw();
         whoseHandKept();
         whoseHandAgo();
+        whoseHandNames();
         dayEndsRange();
         dayEndsWind();
         savesRange();
         savesTenths();
+        savesFromRest();
         whenToGoWaits();
         whenToGoInAll();
         whichRopeRange();
@@ -213,6 +216,18 @@ public final class AheadEdgesTest {
         fewest("all 7", tight(12), 6, 1, 1, 1, 0, -1, -1, -1);
     }
 
+    /** By this law a COMMAND of 0 behind another one spoils all, so that none of the 7 can be 0. */
+    private static void fewestAllSeven() {
+        HookSwings x = tight(14);
+        Checks.text(x, "swings if (pace-ago 1 pace)/2*2=pace-ago 1 pace and size away<50 then away-speed else 99 end;");
+        x.move(1);
+        x.by(1);
+        soonest("none is 0", x, 1, 1, -1, 1, -1, -1, -1);
+        fewest("none is 0", x, 7, 1, 1, -1, 1, -1, -1, -1);
+        x.aim(15);
+        nothing("15 is too far", x);
+    }
+
     private static void fewestOfLikeOnes() {
         fewest("two alone", tight(1), 2, 1, -1);
         fewest("the fewest TENTHS", tight(2), 2, 1, 0, -1);
@@ -311,6 +326,11 @@ public final class AheadEdgesTest {
         HookSwings u = ruled("swings if speed=0 then 0-4 else 0-2*speed end;hand 0;");
         Checks.is("4, then 0: it dies", u.dies(0, 2), -1);
         Checks.is("4 and 0, then 4 and 0", u.dies(0, 4), 0);
+        int[] at = {1, 2};
+        for (int k : at) {
+            HookSwings one = rolling(spike(k, 1) + "hand 0;");
+            Checks.is("1 is more than 0", one.dies(0, 2), k == 1 ? -1 : 1);
+        }
         HookSwings v = ruled("swings if away=0 then 3 else 0-speed*2 end;hand 0;");
         Checks.is("its size, also below 0", v.foretold(1, false, 2), 3);
         Checks.is("-3, then 0: it dies", v.dies(0, 2), -1);
@@ -416,6 +436,38 @@ public final class AheadEdgesTest {
         Checks.is("so it gave 1", z.whoseHand(), 1);
     }
 
+    /** Each NAME by what was at the beginning of the TENTH, not by what is now. */
+    private static void whoseHandNames() {
+        String[] names = {"away", "speed", "pace", "wind", "goal"};
+        for (int n = 0; n < names.length; n++) {
+            HookSwings x = new HookSwings();
+            x.aim(100);
+            x.run(42);
+            Checks.text(x, "hand 0;");
+            int then = x.jib(n == 0 ? 4 : n == 1 ? 3 : n == 2 ? 1 : 7);
+            then = n == 4 ? x.jib(8) - x.jib(0) : then;
+            Checks.is(names[n] + " isn't 0 then", then != 0, true);
+            for (int i = 0; i < 60; i++) {
+                x.move(0);
+            }
+            Checks.text(x, "hand if " + names[n] + "=0" + (then < 0 ? "" : "+") + then + " then 1 else 0 end;");
+            Checks.is(names[n] + " of the 60th ago", x.ago(60, n), then);
+            Checks.is("in the 60th ago it gives 1", x.whoseHand(), 1);
+            x.undo();
+            x.move(1);
+            Checks.is("1 was given in another one", x.whoseHand(), 0);
+        }
+        HookSwings y = new HookSwings();
+        Checks.text(y, "hand away+speed*100+pace*1000+goal*9999-9999*10;");
+        y.aim(10);
+        y.move(0);
+        y.aim(11);
+        y.move(1);
+        y.aim(9);
+        y.move(-1);
+        Checks.is("GOAL 10, 11, 8: 0, 1, -1", y.whoseHand(), 1);
+    }
+
     private static void dayEndsRange() {
         HookSwings x = ruled("swings if speed=0 then wind else 0 end;");
         Checks.is("1: 9 above 8", x.dayEnds(1, 8), 9);
@@ -509,6 +561,54 @@ public final class AheadEdgesTest {
         Checks.is("from rest", x.saves(0, 1, 15), 800 - 1 - 11 - 191 - 200);
     }
 
+    /** How many TENTHS the hand of a law saves against one that never stops, for one ORDER. */
+    private static void savesBy(String what, HookSwings x, int due) {
+        Checks.text(x, "hand 1;");
+        int text = x.about(3) - 1;
+        Checks.is(what, x.saves(text - 1, text, 1), 200 - due);
+    }
+
+    /** An ORDER to a YARD, far off from rest: WIND 7, ROPE 9, and the LOAD swings. */
+    private static HookSwings farFromRest(int yard, int near) {
+        HookSwings x = new HookSwings();
+        x.order(5, yard, 0, 0, 0);
+        x.near(near);
+        x.aim(600);
+        x.run(40);
+        x.run(2);
+        x.hoist(9);
+        Checks.is("WIND", x.jib(7), 7);
+        x.foretold(1, true, 0);
+        return x;
+    }
+
+    private static void savesFromRest() {
+        HookSwings rest = farFromRest(0, 0);
+        Checks.text(rest, "hand 0;");
+        savesBy("PLACE, LOAD, PACE, SPEED 0", rest, 1);
+        HookSwings wind = farFromRest(0, 0);
+        Checks.text(wind, "hand if wind#0 or ago 1 wind#0 then 1 else 0 end;");
+        savesBy("WIND 0", wind, 1);
+        HookSwings weight = farFromRest(0, 0);
+        Checks.text(weight, "hand if weight=5 then 0 else 1 end;");
+        savesBy("its WEIGHT", weight, 1);
+        HookSwings rope = new HookSwings();
+        rope.order(5, 0, 0, 0, 0);
+        rope.hoist(9);
+        Checks.text(rope, "hand if rope=9 then 0 else 1 end;");
+        savesBy("ROPE as now", rope, 1);
+        HookSwings tenth = farFromRest(1, 99);
+        Checks.text(tenth, "hand if ago 1 goal=10 then 0-1 else if ago 1 goal=0 then 1 else 0 end end;");
+        savesBy("nothing kept at first, the first TENTH then", tenth, 2);
+        // A gust in TENTH 40 would send it back.
+        HookSwings still = farFromRest(5, 0);
+        Checks.text(still, "hand if wind>0 then 0-1 else if goal=0 then 0-pace else 1-pace end end;");
+        Checks.text(still, "paces 1;" + TIGHT);
+        still.by(1);
+        Checks.text(still, "hand 1;");
+        Checks.is("WIND stands still", still.saves(0, 2, 1), 200 - 51);
+    }
+
     private static void whenToGoWaits() {
         HookSwings x = new HookSwings();
         Checks.is("still now: 0", x.whenToGo(), 0);
@@ -529,6 +629,20 @@ public final class AheadEdgesTest {
         z.aim(50);
         z.move(1);
         Checks.is("all are alike: the least", z.whenToGo(), 0);
+        // Farther than 3 this hand stops each other TENTH; nearer it rolls on to the GOAL.
+        HookSwings u = ruled("paces 1;" + TIGHT + "hand if pace=1 and goal>3 then 0-1 else if goal=0 then 0-pace"
+            + " else 1-pace end end;");
+        u.near(0);
+        u.aim(8);
+        u.move(1);
+        Checks.is("at once: in 12", u.foretold(200, true, 3), 12);
+        u.image();
+        for (int i = 0; i < 4; i++) {
+            u.move(0);
+        }
+        Checks.is("behind 4: in 4", u.foretold(200, true, 3), 4);
+        u.back();
+        Checks.is("a later one is sooner in all", u.whenToGo(), 4);
     }
 
     private static void whenToGoInAll() {
@@ -683,6 +797,9 @@ public final class AheadEdgesTest {
         x.by(3);
         Checks.is("not at YARD 0, so none", x.howFar(50), -1);
         Checks.is("49", x.howFar(49), 60);
+        HookSwings y = ruled("holds yard+30;");
+        Checks.is("from YARD 0 on", y.howFar(30), 60);
+        Checks.is("30 at YARD 0", y.howFar(31), -1);
     }
 
     private static void over() {

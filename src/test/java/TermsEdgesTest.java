@@ -23,6 +23,8 @@ public final class TermsEdgesTest {
         keptPast60();
         steps();
         stepsOfEachKind();
+        takenBackIsNotDone();
+        backIsNotDone();
         orders();
         writtenDown();
         hooks();
@@ -496,6 +498,82 @@ public final class TermsEdgesTest {
         Checks.is("not LANDED", x.ofOrder(0, 5), 0);
         Checks.is("HOOKED", x.jib(11), 0);
         Checks.is("nothing written down", x.landed(-1, 0), 0);
+    }
+
+    /** One of many STEPS, by its number. */
+    private static void step(HookSwings x, int i) {
+        switch (i % 7) {
+            case 0: x.storm(i * 31 % 10000, 1 + i % 40); break;
+            case 1: x.aim(i * 17 % 601); break;
+            case 2: x.hoist(1 + i * 5 % 24); break;
+            case 3: x.move(i % 3 - 1); break;
+            default: x.storm(i, 40);
+        }
+    }
+
+    private static HookSwings stepped(int many) {
+        HookSwings x = ruled("swings (away+wind)/rope-ago 9 speed/8;hand goal;paces 7;");
+        for (int i = 0; i < many; i++) {
+            step(x, i);
+        }
+        return x;
+    }
+
+    private static String keptOf(HookSwings x) {
+        StringBuilder out = new StringBuilder();
+        for (int k = 1; k <= 60; k++) {
+            for (int what = 0; what <= 5; what++) {
+                out.append(x.ago(k, what)).append(' ');
+            }
+        }
+        for (int what = 0; what <= 12; what++) {
+            out.append(x.jib(what)).append(' ');
+        }
+        return out.append(x.about(2)).append(' ').append(x.about(7)).toString();
+    }
+
+    /** So many STEPS taken back are as if they had never been, however far the rows have wrapped around. */
+    private static void takenBackIsNotDone() {
+        int[] manys = {1, 2, 5, 29, 30, 31, 45, 60, 90};
+        int[] undone = {1, 2, 7, 15, 29, 30};
+        for (int many : manys) {
+            for (int back : undone) {
+                HookSwings x = stepped(many);
+                int done = Math.min(Math.min(back, 30), x.about(5));
+                for (int i = 0; i < done; i++) {
+                    x.undo();
+                }
+                // A STEP may be refused, so that the number of those that were done is looked up.
+                HookSwings twin = new HookSwings();
+                int upTo = many;
+                for (int steps = 0; steps < done; upTo--) {
+                    twin = stepped(upTo - 1);
+                    steps += keptOf(twin).equals(keptOf(stepped(upTo))) ? 0 : 1;
+                }
+                Checks.same(done + " of " + many + " taken back", keptOf(x), keptOf(twin));
+            }
+        }
+    }
+
+    private static void backIsNotDone() {
+        int[] manys = {0, 1, 30, 31, 60};
+        for (int many : manys) {
+            HookSwings x = stepped(many);
+            x.image();
+            for (int i = 0; i < 20; i++) {
+                x.undo();
+            }
+            for (int i = 0; i < 80; i++) {
+                step(x, i * 3 + 1);
+            }
+            x.back();
+            HookSwings twin = stepped(many);
+            Checks.same("BACK from far off to " + many, keptOf(x), keptOf(twin));
+            for (int i = 0; i < 31; i++) {
+                Checks.is("taken back behind BACK", x.undo(), twin.undo());
+            }
+            Checks.same("as far as can be", keptOf(x), keptOf(twin));
+        }
     }
 
     private static void orders() {

@@ -25,6 +25,7 @@ public final class TextEdgesTest {
         firstOfAll();
         million();
         division();
+        asks();
         agoNotKept();
         lawOfPaces();
         lawOfSwings();
@@ -509,16 +510,54 @@ public final class TextEdgesTest {
         sum("2+3*4-5", 9);
     }
 
+    /** Each sign with each other one beside or and and, and under not. */
+    private static void asks() {
+        String[] trues = {"1<2", "1<=2", "2<=2", "2>1", "2>=1", "2>=2", "2=2", "1#2", "not 2<1", "not not 1<2"};
+        String[] falses = {"2<1", "2<2", "2<=1", "1>2", "2>2", "1>=2", "1=2", "2#2", "not 1<2", "not 2=2"};
+        for (int i = 0; i < trues.length; i++) {
+            ask(trues[i], true);
+            ask(falses[i], false);
+            ask("not " + trues[i], false);
+            ask("not " + falses[i], true);
+            for (int k = 0; k < trues.length; k++) {
+                ask(trues[i] + " and " + trues[k], true);
+                ask(trues[i] + " and " + falses[k], false);
+                ask(falses[i] + " and " + trues[k], false);
+                ask(falses[i] + " and " + falses[k], false);
+                ask(trues[i] + " or " + trues[k], true);
+                ask(trues[i] + " or " + falses[k], true);
+                ask(falses[i] + " or " + trues[k], true);
+                ask(falses[i] + " or " + falses[k], false);
+            }
+        }
+        ask("1<2 or 1<2 and 2<1", true);
+        ask("2<1 and 1<2 or 1<2", true);
+        ask("1<2 and 2<1 or 2<1 and 1<2", false);
+        ask("not 1<2 and 2<1", false);
+        ask("not 2<1 or 1<2", true);
+        // Both sides are looked at always, also where a division by 0 stands.
+        ask("1<2 or 1/0=0", true);
+        ask("2<1 and 1/0=0", false);
+        sum("if 1<2 then 5 else 1/0 end", 5);
+    }
+
+    private static void ask(String ask, boolean due) {
+        sum("if " + ask + " then 11 else 22 end", due ? 11 : 22);
+    }
+
     /** Of TENTH k and less nothing is kept k ago; behind it there is. */
     private static void agoNotKept() {
         String[] names = {"away", "speed", "pace", "wind", "goal"};
         for (int k = 1; k <= 9; k++) {
-            HookSwings x = ruled("hand ago " + k + " goal;paces 0;");
-            x.aim(9);
             for (int t = 0; t <= 10; t++) {
+                HookSwings x = ruled("hand ago " + k + " goal;");
+                x.aim(9);
+                for (int i = 0; i < t; i++) {
+                    x.move(0);
+                }
                 Checks.is("ago " + k + " in TENTH " + t, x.jib(12), t >= k ? 1 : 0);
-                Checks.is("foretold, too", x.foretold(1, true, 0), 0);
-                x.move(0);
+                Checks.is("foretold, too", x.foretold(1, true, 0), t >= k ? 1 : 0);
+                Checks.is("and done", x.run(1), t >= k ? 1 : 0);
             }
         }
         for (String name : names) {
