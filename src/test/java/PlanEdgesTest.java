@@ -285,7 +285,7 @@ public final class PlanEdgesTest {
             x.order(o + 1, 0, 0, 0, 0);
         }
         for (int o = 0; o < tenths.length; o++) {
-            while (x.jib(9) < tenths[o]) {
+            for (int i = 0; i < 170 && x.jib(9) < tenths[o]; i++) {
                 x.run(Math.min(60, tenths[o] - x.jib(9)));
             }
             x.hook(o);

@@ -546,7 +546,7 @@ public final class TermsEdgesTest {
                 // A STEP may be refused, so that the number of those that were done is looked up.
                 HookSwings twin = new HookSwings();
                 int upTo = many;
-                for (int steps = 0; steps < done; upTo--) {
+                for (int steps = 0; steps < done && upTo > 0; upTo--) {
                     twin = stepped(upTo - 1);
                     steps += keptOf(twin).equals(keptOf(stepped(upTo))) ? 0 : 1;
                 }

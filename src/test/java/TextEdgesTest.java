@@ -10,9 +10,11 @@ public final class TextEdgesTest {
         faultOf();
         by();
         longestText();
+        wordsAtTheEnd();
         tokens();
         strangeSigns();
         everyPrefix();
+        cutTapes();
         numbersTold();
         numbersInSums();
         openEightDeep();
@@ -25,6 +27,7 @@ public final class TextEdgesTest {
         firstOfAll();
         million();
         division();
+        signs();
         asks();
         agoNotKept();
         lawOfPaces();
@@ -197,6 +200,24 @@ public final class TextEdgesTest {
         sound("hand-1*1/1" + times(144, "*1") + ";");
     }
 
+    /** A full tape that ends with a word, or with the beginning of one. */
+    private static void wordsAtTheEnd() {
+        String words = "paces swings hand holds lasts order move run rope aim hook land away speed pace wind goal weight yard"
+            + " at due men in on out if then else end or and not size ago";
+        String clauses = " paces swings hand holds lasts order move run rope aim hook land ";
+        String names = " away speed pace wind goal rope weight ";
+        for (String word : words.split(" ")) {
+            for (int n = 1; n <= word.length(); n++) {
+                String part = word.substring(0, n);
+                boolean clause = clauses.contains(" " + part + " ");
+                Checks.fault(times(300 - n, " ") + part, 1, clause ? 300 : 300 - n);
+                boolean goesOn = names.contains(" " + part + " ") || part.equals("if") || part.equals("size") || part.equals("ago");
+                boolean yard = part.equals("yard");
+                Checks.fault("hand" + times(296 - n, " ") + part, yard ? 5 : 1, goesOn ? 300 : 300 - n);
+            }
+        }
+    }
+
     private static void tokens() {
         sound("land;land;");
         Checks.fault("landland;", 1, 0);
@@ -254,6 +275,41 @@ public final class TextEdgesTest {
             Checks.fault(prefix.toString(), whole ? 0 : 1, whole ? -1 : prefix.length());
             Checks.fault(prefix + "~", 1, prefix.length());
         }
+    }
+
+    /** What stood behind the end of the tape is not read, also if it would make a word or a NUMBER longer. */
+    private static void cutTapes() {
+        String[] wholes = {"move in;", "move on;", "move out;", "land;", "run 60;", "rope 24;", "hand away;", "hand ago 1 pace;",
+            "paces 1;", "pace 1;", "hand size 1;", "hand if 1<=2 then 1 else 2 end;", "hand if 1<2 or 1>=2 and 1#2 then 1 else 2 end;",
+            "order 1 at 2 due 3 men 4 on 1;", "aim 600;", "hook 7;", "holds yard;", "lasts weight+rope;", "swings speed+wind+goal;"};
+        for (String whole : wholes) {
+            for (int n = 0; n <= whole.length(); n++) {
+                HookSwings cut = new HookSwings();
+                Checks.tape(cut, whole);
+                cut.end(n);
+                HookSwings clean = new HookSwings();
+                Checks.tape(clean, whole.substring(0, n));
+                String what = "the first " + n + " of '" + whole + "'";
+                Checks.is(what, cut.text(), clean.text());
+                Checks.is(what + ": its FAULT", cut.fault(0), clean.fault(0));
+                Checks.is(what + ": its place", cut.fault(1), clean.fault(1));
+            }
+        }
+        cutAt("move in;", 6, 1, 5);
+        cutAt("paces 1;", 4, 1, 0);
+        cutAt("hand pace;", 7, 1, 5);
+        cutAt("hand 1;run 60;", 12, 1, 12);
+        cutAt("run 600;", 6, 1, 6);
+        cutAt("hand if 1<=2", 10, 1, 10);
+    }
+
+    private static void cutAt(String whole, int n, int fault, int place) {
+        HookSwings x = new HookSwings();
+        Checks.tape(x, whole);
+        x.end(n);
+        Checks.is("no TEXT of the first " + n + " of '" + whole + "'", x.text(), -1);
+        Checks.is("its FAULT", x.fault(0), fault);
+        Checks.is("its place", x.fault(1), place);
     }
 
     // ---- numbers
@@ -508,6 +564,26 @@ public final class TextEdgesTest {
         sum("20-5-5", 10);
         sum("20-(5-5)", 20);
         sum("2+3*4-5", 9);
+    }
+
+    /** size and - of what is above 0, of 0, and of what is below. */
+    private static void signs() {
+        sum("size 7", 7);
+        sum("size 0", 0);
+        sum("size -7", 7);
+        sum("size(2-9)", 7);
+        sum("size(9-2)", 7);
+        sum("size size 7", 7);
+        sum("-size 7+50", 43);
+        sum("-size -7+50", 43);
+        sum("size yard", 7);
+        sum("-7+50", 43);
+        sum("-0+50", 50);
+        sum("--7", 7);
+        sum("-(2-9)", 7);
+        sum("-(9-2)+50", 43);
+        sum("size 3*5", 15);
+        sum("-3*5+50", 35);
     }
 
     /** Each sign with each other one beside or and and, and under not. */
