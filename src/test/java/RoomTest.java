@@ -1,7 +1,10 @@
 import java.lang.management.ManagementFactory;
+import java.lang.reflect.Array;
+import java.lang.reflect.Field;
+import java.lang.reflect.Modifier;
 import java.util.Random;
 
-/** No call throws for any arguments in any state, and no call makes objects. */
+/** No call throws for any arguments in any state, no call makes objects, and an object takes little room. */
 public final class RoomTest {
     private static final Random RANDOM = new Random(7);
     private static final int[] EDGES = {Integer.MIN_VALUE, Integer.MIN_VALUE + 1, -100001, -2, -1, 0, 1, 2, 3, 7, 8, 9, 10,
@@ -12,7 +15,10 @@ public final class RoomTest {
         "hand goal;order 1 at 0 due 999 men 9 on 0;order 9 at 9 due 99 men 1 on 1;hook 0;land;hook 1;run 60;",
         "swings 99*99*99*99/0-size -away;hand --------goal;", "aim 600;run 60;run 60;rope 1;rope 24;move out;"};
 
-    public static void main(String[] args) {
+    private static int objects = 0;
+    private static int elements = 0;
+
+    public static void main(String[] args) throws Exception {
         for (int i = 0; i < 60; i++) {
             wild(i % 2 == 0);
         }
@@ -20,7 +26,34 @@ public final class RoomTest {
         long many = bytesOf(512, 40);
         // What the machine makes for itself is far less than one object for each of these 20,000 calls.
         Checks.is("bytes made by calls: " + one + ", " + many, many < 40000, true);
+        // Hundreds of objects must fit into one room of 600,000 objects and 7,300,000 elements.
+        count(new HookSwings());
+        Checks.is("objects made with one: " + objects, objects <= 100, true);
+        Checks.is("fields and elements made with one: " + elements, elements <= 10000, true);
         Checks.close();
+    }
+
+    /** What is referred to twice counts twice, so this is no less than what is made. */
+    private static void count(Object one) throws Exception {
+        objects++;
+        if (one.getClass().isArray()) {
+            int length = Array.getLength(one);
+            elements += length;
+            for (int i = 0; i < length && one instanceof Object[] row; i++) {
+                count(row[i]);
+            }
+            return;
+        }
+        for (Field field : one.getClass().getDeclaredFields()) {
+            if (Modifier.isStatic(field.getModifiers())) {
+                continue;
+            }
+            elements++;
+            if (!field.getType().isPrimitive()) {
+                field.setAccessible(true);
+                count(field.get(one));
+            }
+        }
     }
 
     private static int any() {
